@@ -204,6 +204,19 @@ public final class PromiseTests {
         due("payers(0, 1, -99, NONE)", x.payers(0, 1, -99, NONE), BAD);
         due("payers(0, 1, 101, -1)", x.payers(0, 1, 101, -1), BAD);
         due("payers(0, 1, 101, 200)", x.payers(0, 1, 101, 200), BAD);
+        int[][] twice = {{499, 401}, {401, 499}, {101, 199}, {199, 101}};
+        for (int[] t : twice) {
+            due("payers(0, " + t[0] + ", " + t[1] + ", NONE)", x.payers(0, t[0], t[1], NONE), BAD);
+            due("payers(0, " + t[0] + ", 1, " + t[1] + ")", x.payers(0, t[0], 1, t[1]), BAD);
+            due("payers(0, 1, " + t[0] + ", " + t[1] + ")", x.payers(0, 1, t[0], t[1]), BAD);
+        }
+        int[][] apart = {{301, 299}, {299, 301}, {401, 399}, {399, 401}, {399, 401}};
+        for (int[] t : apart) {
+            due("payers(0, " + t[0] + ", " + t[1] + ", NONE)", x.payers(0, t[0], t[1], NONE), 2);
+            due("payers(0, " + t[0] + ", 1, " + t[1] + ")", x.payers(0, t[0], 1, t[1]), 3);
+            due("payers(0, 1, " + t[0] + ", " + t[1] + ")", x.payers(0, 1, t[0], t[1]), 3);
+        }
+        due("payers(0, 401, 1, 350)", x.payers(0, 401, 1, 350), 3);
         due("bill(0, 0, 0)", x.bill(0, 0, 0), 0);
         due("payers(0, 1, NONE, NONE)", x.payers(0, 1, NONE, NONE), NO);
         due("payers(0, 0, NONE, NONE)", x.payers(0, 0, NONE, NONE), BAD);
@@ -214,6 +227,9 @@ public final class PromiseTests {
         due("bill(1, 0, 0)", x.bill(1, 0, 0), 1);
         due("owes(1, 0, 0)", x.owes(1, 0, 0), 99999);
         due("owes(1, 4, 0)", x.owes(1, 4, 0), 0);
+        due("bill(2, 0, 0)", x.bill(2, 0, 0), 2);
+        due("pay(2, 0, 1), its client alone pays at first", x.pay(2, 0, 1), NO);
+        due("pay(2, 4, 1)", x.pay(2, 4, 1), 1);
     }
 
     private static void walls() {
@@ -238,6 +254,13 @@ public final class PromiseTests {
         due("entry(0, 0, 0, 1, 0), the wall is to another matter", x.entry(0, 0, 0, 1, 0), 1);
         due("entry(1, 1, 0, 1, 0), the wall is to another person", x.entry(1, 1, 0, 1, 0), 2);
         due("entry(0, 1, 0, 1, 0)", x.entry(0, 1, 0, 1, 0), NO);
+        HourHouse y = small();
+        for (int i = 1; i < 8; i++) y.person(0, 1);
+        for (int i = 1; i < 10; i++) y.matter(0, 0, 0);
+        for (int i = 0; i < 80; i++) {
+            if (i % 3 == 0) y.wall(i % 8, i / 8, 1);
+        }
+        for (int i = 0; i < 80; i++) due("wall " + i, y.wall(i % 8, i / 8, 0), i % 3 == 0 ? 1 : 0);
     }
 
     private static void days() {
@@ -373,6 +396,13 @@ public final class PromiseTests {
         due("written(0, 7, 11, 0), withdrawn later", x.written(0, 7, 11, 0), 151);
         due("written(0, 7, 12, 2)", x.written(0, 7, 12, 2), 1);
         due("written(0, 7, 12, 1)", x.written(0, 7, 12, 1), 0);
+        HourHouse y = small();
+        y.door(0, 0, 100001);
+        y.entry(0, 0, 0, 240, 0);
+        y.entry(0, 0, 0, 239001, 0);
+        y.entry(0, 0, 0, 1, 0);
+        due("written(0, 0, 0, 2), the first and the last part", y.written(0, 0, 0, 2), 2);
+        due("written(0, 0, 0, 3)", y.written(0, 0, 0, 3), 239);
         due("written(2, 7, 12, 0)", x.written(2, 7, 12, 0), BAD);
         due("written(-1, 7, 12, 0)", x.written(-1, 7, 12, 0), BAD);
         due("written(0, 13, 12, 0)", x.written(0, 13, 12, 0), BAD);
@@ -493,6 +523,25 @@ public final class PromiseTests {
         x.client();
         due("terms(1, 0), of another client", terms(x, 1, 0, "parts n rate r"), 2);
         due("count(5)", x.count(5), 4);
+        due("terms(1, 0), a fault at a word", terms(x, 1, 0, "x"), -100);
+        due("terms(1, 0), behind it", terms(x, 1, 0, "parts n rate r"), 2);
+        due("terms(1, 0), a fault at a number", terms(x, 1, 0, "parts ((!(!1 1"), -113);
+        due("terms(1, 0), behind it", terms(x, 1, 0, "parts n rate ((((((((!!!!!!!!r))))))))"), 2);
+        for (int i = 2; i < 5; i++) x.client();
+        for (int i = 2; i < 5; i++) x.matter(0, i, 0);
+        StringBuilder one = new StringBuilder("parts n rate 1");
+        while (one.length() < 118) one.append("+1");
+        for (int i = 2; i < 5; i++) {
+            for (int t = 0; t < 3; t++) terms(x, i, t, one + "+" + (t + i));
+        }
+        x.days(2);
+        for (int i = 2; i < 5; i++) {
+            for (int t = 0; t < 3; t++) {
+                int e = x.entry(0, i - 1, t, 1, 0);
+                due("worth(" + e + ", 2, 1), each text by itself", x.worth(e, 2, 1), 53 + t + i);
+                due("worth(" + e + ", 2, 0)", x.worth(e, 2, 0), 1);
+            }
+        }
     }
 
     private static void text(String text, int want) {
@@ -557,6 +606,17 @@ public final class PromiseTests {
         text("parts x rate r", -106);
         text("parts nn rate r", -106);
         text("parts N rate r", -106);
+        text("parts nz rate r", -106);
+        text("parts na rate r", -106);
+        text("parts n0 rate r", -107);
+        text("parts n`rate r", -107);
+        text("parts n{rate r", -107);
+        text("parts n:rate r", -107);
+        text("xarts n rate r", -100);
+        text("partx n rate r", -100);
+        text("parts n xate r", -108);
+        text("parts n ratx r", -108);
+        text("parts n rat r", -108);
         text("parts n\trate r", -107);
         text("parts n % 2 rate r", -108);
         text("parts n" + (char) 0 + "rate r", -107);
@@ -594,6 +654,12 @@ public final class PromiseTests {
         due("1+1=2", counted("1+1=2"), 1);
         due("5&7", counted("5&7"), 1);
         due("5&0", counted("5&0"), 0);
+        due("1&1", counted("1&1"), 1);
+        due("0&5", counted("0&5"), 0);
+        due("1|0", counted("1|0"), 1);
+        due("2&3&4, by & each", counted("2&3&4"), 1);
+        due("4|0|2, by | each", counted("4|0|2"), 1);
+        due("1&2=2", counted("1&2=2"), 1);
         due("0|7", counted("0|7"), 1);
         due("0|0", counted("0|0"), 0);
         due("1|0&0, & binds more", counted("1|0&0"), 1);
@@ -846,6 +912,11 @@ public final class PromiseTests {
         due("trust(0, " + (9999999 - all) + ")", x.trust(0, 9999999 - all), 9999999);
         due("trust(0, 1)", x.trust(0, 1), FULL);
         promise = 26;
+        x.matter(1, 0, 9);
+        x.bill(1, 0, 0);
+        x.draw(1, 0);
+        due("pay(1, 0, 9), all fits", x.pay(1, 0, 9), 9);
+        due("trust(0, 0)", x.trust(0, 0), 9999999);
         due("pay(0, 0, 1)", x.pay(0, 0, 1), FULL);
         due("pay(0, 1, 1)", x.pay(0, 1, 1), 1);
     }
@@ -882,6 +953,17 @@ public final class PromiseTests {
         x.rule(1, 100);
         x.rule(2, 0);
         due("owes(0, 1, 1), 890 days", x.owes(0, 1, 1), 1480);
+        HourHouse y = small();
+        y.matter(1, 0, 36499);
+        y.matter(1, 0, 36500);
+        y.rule(1, 1);
+        y.rule(2, 0);
+        y.bill(1, 0, 0);
+        y.bill(2, 0, 0);
+        due("owes(0, 0, 1), the same day", y.owes(1, 0, 1), 0);
+        y.days(1);
+        due("owes(0, 0, 1), 36499 by 36500", y.owes(0, 0, 1), 0);
+        due("owes(1, 0, 1), 36500 by 36500", y.owes(1, 0, 1), 1);
     }
 
     private static void contests() {
@@ -940,6 +1022,51 @@ public final class PromiseTests {
         due("contest(6), 231 - 231 * 7 / 200", x.contest(6), 223);
         due("trust(1, 0)", x.trust(1, 0), 223);
         fullTrust();
+        fullTrustUntouched();
+    }
+
+    private static void fullTrustUntouched() {
+        HourHouse x = small();
+        x.client();
+        x.matter(0, 0, 0);
+        x.matter(0, 1, 0);
+        x.entry(0, 1, 0, 10, 1);
+        x.bill(1, 0, 0);
+        x.payers(2, 101, 1, NONE);
+        x.entry(0, 2, 0, 100, 1);
+        x.entry(0, 2, 0, 100, 1);
+        x.bill(2, 0, 0);
+        promise = 28;
+        due("middle(1), of the first entry alone", x.middle(1), 10);
+        promise = 27;
+        for (int i = 0; i < 100; i++) x.trust(1, 99999);
+        x.trust(1, 99);
+        due("contest(1), trust is full, but all is still owed", x.contest(1), 630);
+        due("owes(1, 1, 0)", x.owes(1, 1, 0), 385);
+        due("trust(1, 0)", x.trust(1, 0), 9999999);
+        x.pay(1, 1, 100);
+        due("contest(2), the first payer's trust is full", x.contest(2), FULL);
+        due("owes(1, 1, 0)", x.owes(1, 1, 0), 285);
+        due("owes(1, 0, 0)", x.owes(1, 0, 0), 385);
+        x.matter(1, 1, 29);
+        x.bill(3, 0, 0);
+        x.draw(2, 1);
+        due("contest(2), 30 more, 29 fit", x.contest(2), FULL);
+        x.matter(1, 1, 1);
+        x.bill(4, 0, 0);
+        x.draw(3, 1);
+        due("contest(2), 30 more fit", x.contest(2), 630);
+        due("owes(1, 1, 0)", x.owes(1, 1, 0), 0);
+        due("owes(1, 0, 0)", x.owes(1, 0, 0), 70);
+        due("trust(1, 0)", x.trust(1, 0), 9999999);
+        promise = 28;
+        HourHouse y = small();
+        y.matter(0, 0, 0);
+        terms(y, 0, 0, "parts 5 rate 5");
+        y.bill(1, 0, 0);
+        y.entry(0, 0, 0, 1, 0);
+        y.bill(0, 0, 0);
+        due("middle(0), there are no others", y.middle(0), NO);
     }
 
     private static void fullTrust() {
@@ -1019,6 +1146,16 @@ public final class PromiseTests {
         x.stage(0, 3);
         due("foretold(0, 1), nobody was at 3", x.foretold(0, 1), NONE);
         due("foretold(3, 0), none of its kind", x.foretold(3, 0), NONE);
+        x.matter(2, 0, 99999);
+        x.entry(1, 5, 0, 10, 0);
+        x.stage(5, 2);
+        due("foretold(5, 0), none of its kind", x.foretold(5, 0), NONE);
+        x.matter(0, 0, 0);
+        x.entry(1, 6, 0, 20, 0);
+        x.stage(6, 3);
+        x.entry(1, 0, 0, 4, 0);
+        x.stage(0, 5);
+        due("foretold(6, 0), of the first matter", x.foretold(6, 0), 22);
         HourHouse y = small();
         y.matter(0, 0, 0);
         terms(y, 0, 1, "parts 240 rate 9999");
@@ -1161,8 +1298,33 @@ public final class PromiseTests {
         due("check(), more than 30000", y.check(), SPENT);
         due("count(8)", y.count(8), 0);
         promise = 35;
+        wallsByTasks();
         tempIsClerk();
         lessIsLater();
+    }
+
+    private static void wallsByTasks() {
+        HourHouse x = small();
+        x.person(1, 10);
+        x.matter(0, 0, 0);
+        x.free(0, 99);
+        x.free(1, 99);
+        x.wall(1, 1, 1);
+        x.task(1, 10, 0);
+        due("plan(1), a wall to the task's matter", x.plan(1), 70);
+        x.task(0, 10, 0);
+        due("plan(3), none to the other's", x.plan(3), 80);
+        HourHouse y = new HourHouse();
+        y.person(0, 5);
+        y.person(0, 1);
+        y.client();
+        y.matter(0, 0, 0);
+        y.free(1, 1);
+        y.task(0, 1, 0);
+        due("plan(1), it costs nothing", y.plan(1), 0);
+        promise = 36;
+        due("planned(1, 0)", y.planned(1, 0), 1);
+        promise = 35;
     }
 
     private static void tempIsClerk() {
@@ -1281,12 +1443,51 @@ public final class PromiseTests {
             due("bill(0, 3, 0)", x.bill(0, 3, 0), 0);
             due("owes(0, 0, 0)", x.owes(0, 0, 0), 69);
         }
+        imagesOfChanges();
         promise = 39;
         x.back();
         x.days(7);
         due("keep(), anew", x.keep(), 10);
         x.days(1);
         due("back()", x.back(), 10);
+    }
+
+    /** What can change once it is there: payers, what is owed, cuts, what is charged, stages, tasks. */
+    private static void imagesOfChanges() {
+        HourHouse x = small();
+        x.client();
+        for (int i = 0; i < 3; i++) x.matter(0, 0, 0);
+        x.payers(0, 1, 101, NONE);
+        x.entry(0, 0, 0, 100, 1);
+        x.entry(0, 1, 0, 10, 1);
+        x.entry(0, 2, 0, 20, 1);
+        x.bill(1, 0, 0);
+        x.bill(2, 0, 0);
+        x.stage(2, 1);
+        x.stage(1, 2);
+        x.task(0, 20, 1);
+        x.free(0, 99);
+        x.keep();
+        x.payers(0, 102, 1, NONE);
+        x.bill(0, 0, 0);
+        x.pay(0, 0, 50);
+        x.contest(2);
+        x.stage(1, 3);
+        x.stage(2, 2);
+        x.stage(2, 5);
+        x.clear();
+        x.task(1, 10, 2);
+        x.days(5);
+        due("back()", x.back(), 0);
+        due("told(0, 9)", x.told(0, 9), 0);
+        due("told(2, 10)", x.told(2, 10), NONE);
+        due("owes(1, 0, 0)", x.owes(1, 0, 0), 140);
+        due("plan(1)", x.plan(1), 140);
+        due("stage(2, 5)", x.stage(2, 5), 140);
+        due("foretold(1, 0), it was not told to be at 2", x.foretold(1, 0), NONE);
+        due("bill(0, 0, 0)", x.bill(0, 0, 0), 2);
+        due("owes(2, 0, 0)", x.owes(2, 0, 0), 350);
+        due("owes(2, 1, 0)", x.owes(2, 1, 0), 350);
     }
 
     private static void sheets() {
@@ -1310,8 +1511,10 @@ public final class PromiseTests {
         due("mark(2, 0, 1)", x.mark(2, 0, 1), BAD);
         due("mark(-1, 0, 1)", x.mark(-1, 0, 1), BAD);
         promise = 41;
+        x.mark(0, 0, 4);
         due("sheet(0, 20), all 0", x.sheet(0, 20), 20);
         due("mark(0, 19, 5)", x.mark(0, 19, 5), 0);
+        due("mark(0, 0, 5)", x.mark(0, 0, 5), 0);
         due("sheet(0, -1)", x.sheet(0, -1), SIZE);
         due("mark(0, 19, 5), as it was", x.mark(0, 19, 5), 5);
         due("sheet(0, 0)", x.sheet(0, 0), 0);
