@@ -229,6 +229,15 @@ final class Edge {
         return this;
     }
 
+    /** A call that is refused, whatever it answers. */
+    Edge isRefused(String text) {
+        Call call = Call.of(text);
+        int got = ask(call);
+        log.add(call);
+        if (got >= 0) fail(text + " was not refused, but answered " + got);
+        return this;
+    }
+
     Edge bad(String... calls) {
         for (String call : calls) refused(call, BAD);
         return this;

@@ -22,6 +22,7 @@ public final class EdgeBillTests {
         cuts();
         cutsSplit();
         contestFull();
+        contestElsewhere();
         like();
         middles();
         Edge.end(20, 28);
@@ -160,6 +161,13 @@ public final class EdgeBillTests {
             plain(x).bad("about(0, 0)").set("days(4)", "matter(1, 0, 1000)", "entry(0, 1, 4, 9, 0)", "retain(1, 300)", "bill(1, 4, 10)");
             x.dues("about(0, ?)", 1, 4, 1000, 900, 300, 1, 600).range("about(?, 0)", 0, 0).range("about(0, ?)", 0, 6);
             x.set("pay(0, 0, 100)").dues("about(0, ?)", 1, 4, 1000, 900, 300, 1, 500).times(15, "bill(0, 0, 0)").range("about(?, 6)", 0, 15);
+        });
+        Edge.test(21, "6 what all PAYERS OWE now", x -> {
+            x.times(3, "client()");
+            for (int m = 0; m < 10; m++) x.set("matter(1, 0, " + (100 + 9 * m) + ")", "payers(" + m + ", 1, 102, 203)");
+            for (int m = 0; m < 10; m++) x.set("bill(" + m + ", 0, 0)");
+            for (int b = 0; b < 10; b++) x.due("about(" + b + ", 6)", 100 + 9 * b).due("about(" + b + ", 2)", 100 + 9 * b).due("about(" + b + ", 0)", b);
+            x.set("pay(7, 2, 1)").due("about(7, 6)", 162).due("about(6, 6)", 154).due("about(8, 6)", 172);
         });
         Edge.test(21, "6 what all PAYERS OWE now", x -> {
             x.times(3, "client()").set("matter(1, 0, 100)", "payers(0, 1, 101, 201)", "bill(0, 0, 0)").due("about(0, 6)", 100);
@@ -363,6 +371,22 @@ public final class EdgeBillTests {
         });
         Edge.test(27, "there are no LIKE ones; FULL: a TRUST would be above 9999999.", x -> {
             fullTrust(two(x, 1).set("pay(0, 0, 50)", "contest(1)"), 0).refused("contest(0)", NO).bad("contest(2)");
+        });
+    }
+
+    private static void contestElsewhere() {
+        // matter 7 has other payers than the ones ahead of it, and its bill is the last of five
+        Edge.test(27, "CUT is SPLIT as the MATTER's SHARES are, each part goes off what the PAYER OWES of the BILL", x -> {
+            plain(x).times(4, "client()").times(7, "matter(0, 0, 0)").set("payers(7, 403, 102, 305)", "entry(0, 0, 0, 50, 2)", "entry(0, 7, 0, 100, 2)");
+            for (int m : new int[] {0, 1, 2, 3, 7}) x.set("bill(" + m + ", 0, 0)");
+            x.dues("owes(4, ?, 0)", 0, 20, 0, 50, 30).due("about(4, 6)", 100).due("about(0, 6)", 50).due("about(3, 6)", 0);
+            x.fork().due("contest(1)", 50).dues("owes(4, ?, 0)", 0, 10, 0, 25, 15).due("about(4, 6)", 50).due("owes(0, 0, 0)", 50).due("count(11)", 0);
+            x.fork().set("pay(4, 3, 26)").due("contest(1)", 50).dues("owes(4, ?, 0)", 0, 10, 0, 0, 15).due("trust(3, 0)", 1).due("count(11)", 1);
+            fullTrust(x.fork().set("pay(4, 3, 26)"), 3).refused("contest(1)", FULL).set("pay(4, 1, 11)").refused("contest(1)", FULL);
+            fullTrust(x.fork().set("pay(4, 3, 25)"), 3).due("contest(1)", 50).dues("owes(4, ?, 0)", 0, 10, 0, 0, 15);
+            fullTrust(x.fork().set("pay(4, 4, 16)"), 4).refused("contest(1)", FULL);
+            fullTrust(x.fork().set("pay(4, 1, 11)"), 1).refused("contest(1)", FULL);
+            fullTrust(x.fork().set("pay(4, 1, 11)"), 0).due("contest(1)", 50).due("trust(1, 0)", 1);
         });
     }
 

@@ -5,6 +5,7 @@ public final class EdgeImageTests {
     public static void main(String[] args) {
         keep();
         back();
+        changes();
         notKept();
         fullHouse();
         sheets();
@@ -48,6 +49,39 @@ public final class EdgeImageTests {
         Edge.test(40, "AN IMAGE keeps all", x -> {
             x.small().set("matter(0, 0, 0)", "entry(0, 0, 0, 10, 0)", "entry(0, 1, 0, 100, 0)", "bill(0, 0, 0)", "bill(1, 0, 0)", "keep()").due("contest(1)", 630).due("back()", 0);
             x.due("told(1, 10)", NONE).due("owes(1, 0, 0)", 700).due("contest(1)", 630).set("keep()").due("back()", 0).refused("contest(1)", NO).due("owes(1, 0, 0)", 70);
+        });
+    }
+
+    /** What may change once it is there, and numbers that are given once more. */
+    private static void changes() {
+        Edge.test(40, "AN IMAGE keeps all", x -> {
+            x.small().times(2, "client()").set("matter(1, 0, 100)", "payers(1, 201, 103, NONE)", "keep()");
+            x.fork().set("payers(1, 1, 101, 201)").due("back()", 0).set("bill(1, 0, 0)").dues("owes(0, ?, 0)", 0, 75, 25);
+            x.fork().set("payers(1, 101, 203, NONE)").due("back()", 0).set("bill(1, 0, 0)").dues("owes(0, ?, 0)", 0, 75, 25);
+            x.fork().set("payers(1, 299, 101, NONE)").due("back()", 0).set("bill(1, 0, 0)").dues("owes(0, ?, 0)", 0, 75, 25);
+            x.fork().set("payers(1, 1, NONE, NONE)").due("back()", 0).set("bill(1, 0, 0)").dues("owes(0, ?, 0)", 0, 75, 25);
+        });
+        Edge.test(40, "AN IMAGE keeps all", x -> {
+            x.small().set("matter(0, 0, 0)", "entry(0, 0, 0, 10, 0)", "entry(0, 1, 0, 30, 0)", "entry(0, 0, 0, 5, 0)", "stage(0, 2)", "stage(1, 1)", "keep()");
+            x.fork().set("stage(1, 2)").due("back()", 0).set("stage(1, 5)").due("foretold(0, 0)", NONE);
+            x.fork().set("stage(0, 3)").due("back()", 0).due("stage(0, 3)", 105).due("stage(0, 5)", 105);
+            x.fork().set("withdraw(0)").due("back()", 0).due("told(0, 7)", NONE).due("withdraw(0)", 1);
+            x.fork().set("bill(0, 0, 0)").due("told(0, 9)", 70).due("back()", 0).due("told(0, 8)", NONE).due("told(0, 9)", 0).due("withdraw(0)", 1);
+            x.fork().set("withdraw(0)", "keep()").due("back()", 0).refused("withdraw(0)", NO).due("told(0, 7)", 0);
+        });
+        Edge.test(40, "AN IMAGE keeps all", x -> {
+            x.small().set("matter(0, 0, 0)", "person(0, 10)", "free(0, 99)", "free(1, 99)", "wall(0, 0, 1)", "task(1, 20, 1)", "keep()").due("plan(1)", 140);
+            x.fork().set("clear()", "task(0, 20, 1)").due("plan(1)", NO).due("back()", 0).due("plan(1)", 140);
+            x.fork().set("clear()", "task(1, 10, 1)").due("plan(1)", 70).due("back()", 0).due("plan(1)", 140);
+            x.fork().set("clear()", "task(1, 20, 0)").due("plan(2)", 20).due("back()", 0).due("plan(1)", 140);
+        });
+        Edge.test(40, "All is as THE IMAGE", x -> {
+            // what came behind the image is gone, also where its number is given once more
+            x.small().set("keep()", "person(2, 500)", "free(1, 44)", "client()", "trust(1, 9)", "matter(2, 1, 5)", "retain(1, 6)", "wall(0, 1, 1)", "wall(1, 1, 1)", "stage(1, 2)", "payers(1, 150, 1, NONE)");
+            x.terms(1, 0, "parts 1 rate 1").set("entry(0, 0, 0, 9, 5)", "withdraw(0)", "entry(0, 0, 0, 8, 5)", "bill(0, 0, 0)", "door(0, 0, 200001)", "task(0, 9, 2)").due("back()", 0);
+            x.due("person(0, 10)", 1).due("is(1, 2)", 0).due("free(1, 0)", 0).due("client()", 1).due("trust(1, 0)", 0).due("matter(0, 1, 0)", 1).due("count(12)", 0).due("wall(0, 1, 0)", 0).due("wall(1, 1, 0)", 0);
+            x.refused("foretold(1, 0)", NO).due("entry(1, 1, 0, 7, 0)", 0).dues("told(0, ?)", 1, 1, 0, 0, 7, 0, 0, NONE, NONE, 0, NONE).due("worth(0, 0, 3)", 7).due("written(0, 0, 0, 3)", 0);
+            x.due("stage(1, 3)", 7).due("bill(1, 0, 0)", 0).due("owes(0, 1, 0)", 7).refused("pay(0, 0, 1)", NO).due("plan(1)", 0).due("count(5)", 0);
         });
     }
 

@@ -151,6 +151,21 @@ public final class EdgePeopleTests {
             fiveClients(x).due("payers(0, 1, 101, 201)", 3).due("payers(0, 301, NONE, NONE)", 1).set("bill(0, 0, 0)");
             x.dues("owes(0, ?, 0)", 0, 0, 0, 100, 0).refused("pay(0, 1, 1)", NO);
         });
+        Edge.test(7, "PAYERS of a MATTER: CLIENTS, 3 at most, in order, with SHARES 1 .. 99", x -> {
+            // each matter has payers of its own
+            x.times(5, "client()");
+            for (int m = 0; m < 10; m++) {
+                x.set("matter(1, " + m % 5 + ", 1000)", "payers(" + m + ", " + (100 * (m % 5) + 1 + m) + ", " + (100 * ((m + 1) % 5) + 20) + ", " + (100 * ((m + 3) % 5) + 29 - m) + ")");
+            }
+            for (int m = 9; m >= 0; m--) x.due("bill(" + m + ", 0, 0)", 9 - m);
+            for (int m = 0; m < 10; m++) {
+                int[] due = new int[5];
+                due[m % 5] = 20 * (1 + m);
+                due[(m + 1) % 5] = 400;
+                due[(m + 3) % 5] = 20 * (29 - m);
+                x.dues("owes(" + (9 - m) + ", ?, 0)", due);
+            }
+        });
     }
 
     private static void payersRefused() {
@@ -178,6 +193,7 @@ public final class EdgePeopleTests {
                 x.bad("payers(0, " + a + ", " + b + ", NONE)", "payers(0, " + a + ", " + a + ", NONE)");
                 x.bad("payers(0, " + a + ", " + b + ", " + other + ")", "payers(0, " + b + ", " + other + ", " + a + ")");
                 x.bad("payers(0, " + other + ", " + a + ", " + b + ")", "payers(0, " + a + ", " + a + ", " + a + ")");
+                x.bad("payers(0, " + a + ", " + other + ", " + b + ")", "payers(0, " + other + ", " + b + ", " + a + ")", "payers(0, " + b + ", " + a + ", NONE)");
             }
             x.due("payers(0, 99, 101, NONE)", 2).due("payers(0, 1, 199, 201)", 3);
         });

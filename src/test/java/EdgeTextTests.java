@@ -108,6 +108,23 @@ public final class EdgeTextTests {
             x.small().terms(0, 0, "parts n rate r").terms(0, 0, "parts n rate r").terms(0, 0, "parts n rate r");
             x.put("parts n rate").refused("terms(0, 0)", -112).put("parts n rate r").refused("terms(0, 0)", FULL);
         });
+        Edge.test(19, "an act that reads it uses it up, whatever it answers", x -> {
+            // what was read ahead of it changes nothing for a text
+            String[] faults = {"x", "parts 1 1", "parts 123456", "parts ((((((((", "parts !!!!!!!!", "parts (((((((((", "parts !!!!!!!!!", "parts n rate (!(!(n n", "parts n rate r" + "+1".repeat(52) + "+"};
+            for (String fault : faults) {
+                Edge y = x.fork().small().set("entry(0, 0, 0, 3, 0)").put(fault);
+                y.isRefused("terms(0, 0)");
+                y.terms(0, 0, "parts ((((((((!!!!!!!!n)))))))) rate ((((((((!!!!!!!!r))))))))").due("worth(0, 0, 0)", 1).due("worth(0, 0, 1)", 1);
+            }
+        });
+        Edge.test(19, "THE TAPE (120 bytes at most", x -> {
+            x.small().times(4, "client()").set("days(2)");
+            for (int i = 0; i < 15; i++) {
+                x.terms(i / 3, i % 3, "parts 1" + "+1".repeat(i) + " rate 1" + "+1".repeat(53 - i));
+                if (i % 3 == 0 && i > 0) x.set("matter(0, " + i / 3 + ", 0)");
+            }
+            for (int i = 0; i < 15; i++) x.set("entry(0, " + i / 3 + ", " + i % 3 + ", 9, 0)").due("worth(" + i + ", 2, 0)", 1 + i).due("worth(" + i + ", 2, 1)", 54 - i);
+        });
         Edge.test(19, "how many NUMBERS and NAMES they have", x -> {
             x.small().times(4, "client()");
             for (int i = 0; i < 15; i++) x.put("parts n rate r" + "+1".repeat(i)).due("terms(" + i / 3 + ", 0)", 2 + i);
@@ -144,6 +161,12 @@ public final class EdgeTextTests {
         text(rule, "parts a rate r", -106);
         text(rule, "parts z rate r", -106);
         text(rule, "parts 0 rate 9", 2);
+        for (int i = 0; i < 5; i++) text(rule, "parts".substring(0, i) + "z" + "parts".substring(i + 1) + " n rate r", -100);
+        for (int i = 0; i < 4; i++) text(rule, "parts n " + "rate".substring(0, i) + "z" + "rate".substring(i + 1) + " r", -108);
+        for (int i = 1; i < 5; i++) text(rule, "parts".substring(0, i) + " n rate r", -100);
+        for (int i = 1; i < 4; i++) text(rule, "parts n " + "rate".substring(0, i) + " r", -108);
+        text(rule, "partss n rate r", -100);
+        text(rule, "parts n ratee r", -108);
         String glued = "a word right behind another one needs one.";
         text(glued, "parts1 rate r", -105);
         text(glued, "parts 1 rate1", -112);
@@ -411,6 +434,14 @@ public final class EdgeTextTests {
         gives(rule, "65536*32768<65536*32767", 1);
         gives(rule, "1|1/0", 1);
         gives(rule, "0&1/0", 0);
+        for (String none : "0|0 0&0 0&1 1&0 1<1 2<1 1=2 2=1 1>1 1>2".split(" ")) {
+            gives(rule, "5+(" + none + ")", 5);
+            gives(rule, "5-(" + none + ")", 5);
+        }
+        for (String one : "1|1 1|0 0|1 9|9 9|0 1&1 9&9 9&2 1<2 1=1 9=9 2>1 !0".split(" ")) {
+            gives(rule, "5+(" + one + ")", 6);
+            gives(rule, "5-(" + one + ")", 4);
+        }
     }
 
     private static void namesOfEntries() {
@@ -438,6 +469,15 @@ public final class EdgeTextTests {
         Edge.test(19, rule, x -> {
             x.small().set("person(0, 1)", "matter(0, 0, 0)", "days(1)").terms(0, 0, "parts m rate 1").set("entry(0, 0, 0, 9, 0)");
             x.set("entry(1, 1, 0, 9, 0)", "entry(1, 0, 1, 9, 0)").due("worth(0, 1, 0)", 0).set("entry(1, 0, 0, 1, 0)").due("worth(0, 1, 0)", 1);
+        });
+        Edge.test(19, rule, x -> {
+            // ninety entries, of eight people by turns; the first entry meets the last one's people, too
+            x.small().times(7, "person(0, 1)").terms(0, 0, "parts m rate 1");
+            for (int e = 0; e < 90; e++) x.set("entry(" + e % 8 + ", 0, 0, " + (1000 * e + 2) + ", 0)");
+            x.due("worth(0, 0, 0)", 1).due("worth(1, 0, 0)", 2).due("worth(88, 0, 0)", 2).due("worth(89, 0, 0)", 1);
+        });
+        Edge.test(19, rule, x -> {
+            x.small().set("person(0, 1)", "entry(1, 0, 0, 9, 0)", "entry(0, 0, 0, 9, 0)").terms(0, 0, "parts m rate 1").due("worth(0, 0, 0)", 1).due("worth(1, 0, 0)", 1);
         });
         Edge.test(19, "(AS KNOWN on a DAY for m alone; PEOPLE, TERMS as they are.)", x -> {
             x.small().set("person(0, 1)", "entry(0, 0, 0, 9, 0)", "days(5)", "entry(1, 0, 0, 9, 0)", "days(5)", "withdraw(1)", "days(1)").terms(0, 0, "parts m rate 2");

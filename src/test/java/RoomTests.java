@@ -16,8 +16,8 @@ public final class RoomTests {
         fillUp(x);
         dearest(x);
         before = used();
-        for (int i = 0; i < 30; i++) dearest(x);
-        due("some 600 calls", used() - before, 2000);
+        for (int i = 0; i < 12; i++) dearest(x);
+        due("some 280 calls", used() - before, 2000);
         System.out.println(wrong == 0 ? "the room is as due (" + sum + ")" : "the room is not as due");
         if (wrong != 0) System.exit(1);
     }
