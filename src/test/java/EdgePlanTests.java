@@ -51,6 +51,13 @@ public final class EdgePlanTests {
     }
 
     private static void soFar() {
+        Edge.test(29, "NO: not above that at which it is.", x -> {
+            // SOFAR stays as it was told: 8 by 4 of 10, and no stage 2 of the other one
+            plain(x, 3).set("entry(0, 0, 0, 8, 0)", "stage(0, 1)", "entry(0, 1, 0, 4, 0)", "stage(1, 1)", "stage(1, 3)", "entry(0, 1, 0, 6, 0)", "stage(1, 5)", "entry(0, 2, 0, 9, 0)", "stage(2, 2)");
+            x.due("foretold(0, 0)", 20).due("foretold(2, 0)", NONE).set("entry(0, 0, 0, 100, 0)", "entry(0, 1, 0, 50, 0)");
+            for (int s = 1; s <= 5; s++) x.refused("stage(1, " + s + ")", NO);
+            x.refused("stage(0, 1)", NO).refused("stage(2, 1)", NO).refused("stage(2, 2)", NO).due("foretold(0, 0)", 20).due("foretold(2, 0)", NONE).due("stage(2, 3)", 9).due("foretold(2, 0)", 22);
+        });
         Edge.test(29, "what is CHARGED for all its ENTRIES KNOWN TODAY is kept with it (SOFAR)", x -> {
             plain(x, 2).due("stage(0, 1)", 0).set("days(3)", "entry(0, 0, 0, 7, 0)", "entry(0, 0, 3, 9, 0)", "entry(0, 1, 0, 50, 0)", "entry(0, 0, 0, 100, 0)", "withdraw(3)");
             x.due("stage(0, 2)", 16).set("bill(0, 3, 50)").due("stage(0, 3)", 16).set("entry(0, 0, 3, 1, 0)").due("stage(0, 5)", 17).due("stage(1, 5)", 50);

@@ -104,6 +104,14 @@ public final class EdgeTextTests {
             x.put("parts n rate r").refused("terms(0, 0)", FULL).put("parts 1 rate 1").refused("terms(0, 900)", FULL).due("count(5)", 3);
             x.terms(1, 0, "parts n rate r").terms(1, 0, "parts n rate r").terms(1, 0, "parts n rate r").due("count(5)", 6).put("parts n rate r").refused("terms(1, 0)", FULL);
         });
+        Edge.test(19, "in force from a DAY on (3 of a CLIENT at most)", x -> {
+            // terms that are refused leave the others as they are
+            x.small().set("days(9)");
+            for (int day : new int[] {0, 2, 4, 6, 8}) x.set("entry(0, 0, " + day + ", 3, 0)");
+            x.terms(0, 2, "parts 1 rate 10").terms(0, 6, "parts 2 rate 20").terms(0, 4, "parts 3 rate 30").dues("worth(?, 9, 0)", 3, 1, 3, 2, 2);
+            for (int day : new int[] {0, 2, 4, 6, 8, 900}) x.put("parts n*9 rate 90").refused("terms(0, " + day + ")", FULL).put("parts n*9 rate ?").refused("terms(0, " + day + ")", -115);
+            x.dues("worth(?, 9, 0)", 3, 1, 3, 2, 2).dues("worth(?, 9, 1)", 70, 10, 30, 20, 20);
+        });
         Edge.test(19, "-100 less the place of its fault; FULL.", x -> {
             x.small().terms(0, 0, "parts n rate r").terms(0, 0, "parts n rate r").terms(0, 0, "parts n rate r");
             x.put("parts n rate").refused("terms(0, 0)", -112).put("parts n rate r").refused("terms(0, 0)", FULL);
