@@ -149,7 +149,14 @@ public final class EdgePeopleTests {
         });
         Edge.test(7, "PAYERS of a MATTER: SHARES of up to three CLIENTS", x -> {
             fiveClients(x).due("payers(0, 1, 101, 201)", 3).due("payers(0, 301, NONE, NONE)", 1).set("bill(0, 0, 0)");
-            x.dues("owes(0, ?, 0)", 0, 0, 0, 100, 0).refused("pay(0, 1, 1)", NO);
+            x.dues("owes(0, ?, 0)", 0, 0, 0, 100, 0).refused("pay(0, 1, 1)", NO).due("about(0, 6)", 100);
+        });
+        Edge.test(7, "PAYERS of a MATTER: SHARES of up to three CLIENTS", x -> {
+            // payers that are no more have no share
+            fiveClients(x).set("payers(0, 50, 150, 299)");
+            x.fork().due("payers(0, 101, 1, NONE)", 2).set("bill(0, 0, 0)").dues("owes(0, ?, 0)", 50, 50, 0, 0, 0).due("about(0, 6)", 100);
+            x.fork().due("payers(0, 401, NONE, NONE)", 1).set("bill(0, 0, 0)").dues("owes(0, ?, 0)", 0, 0, 0, 0, 100).due("about(0, 6)", 100);
+            x.fork().due("payers(0, 101, 1, NONE)", 2).due("payers(0, 301, NONE, NONE)", 1).set("bill(0, 0, 0)").due("about(0, 6)", 100).refused("pay(0, 0, 1)", NO);
         });
         Edge.test(7, "PAYERS of a MATTER: CLIENTS, 3 at most, in order, with SHARES 1 .. 99", x -> {
             // each matter has payers of its own
@@ -218,6 +225,17 @@ public final class EdgePeopleTests {
             x.set("person(0, 1)", "client()").bad("wall(0, 0, 1)").set("matter(0, 0, 0)");
             x.range("wall(?, 0, 1)", 0, 0).range("wall(0, ?, 1)", 0, 0);
             x.times(7, "person(1, 1)").times(9, "matter(1, 0, 0)").range("wall(?, 9, 1)", 0, 7).range("wall(7, ?, 1)", 0, 9);
+        });
+        Edge.test(8, "A WALL may stand between a PERSON and a MATTER.", x -> {
+            // a matter that comes later has no walls, and leaves those of the others standing
+            x.set("client()").times(8, "person(0, 1)");
+            for (int m = 0; m < 10; m++) {
+                x.set("matter(0, 0, 0)");
+                for (int p = 0; p < 8; p++) x.due("wall(" + p + ", " + m + ", " + (p + m) % 2 + ")", 0);
+            }
+            for (int m = 0; m < 10; m++) {
+                for (int p = 0; p < 8; p++) x.due("wall(" + p + ", " + m + ", 0)", (p + m) % 2);
+            }
         });
         Edge.test(8, "A WALL may stand between a PERSON and a MATTER.", x -> {
             x.set("client()").times(8, "person(0, 1)").times(10, "matter(0, 0, 0)");
